@@ -76,6 +76,11 @@ public final class ActsTest {
         Check.refused(x, "other", x.join(0, -1), 2);
         x.repeat(0, 300);
         Check.refused(x, "too long", x.join(0, 1), 6);
+        x.undo();
+        x.repeat(0, 150);
+        Check.gives(x, "just so long", x.join(0, 0), 5);
+        Check.gives(x, "just so long", x.of(5, 0), 600);
+        x.undo();
         Check.gives(x, "join", x.join(1, 1), 5);
         Check.gives(x, "join", x.join(1, 1), 6);
         Check.gives(x, "join", x.join(1, 1), 7);

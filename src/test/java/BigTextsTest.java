@@ -60,6 +60,39 @@ public final class BigTextsTest {
         both(x, m, "NEW", x.many(5), m.many(5));
     }
 
+    /** The RULES with the greatest numbers of a TEXT that has nearly as many as there can be. */
+    private static void lastRules(PairTexts x, Model m, int t) {
+        int rules = m.of(t, 1);
+        for (int k = Math.max(0, rules - 12); k <= rules; k++)
+            for (int what = 0; what < 7; what++) both(x, m, "rule " + k, x.rule(t, k, what), m.rule(t, k, what));
+    }
+
+    private static void manyRules() {
+        Model.forget();
+        PairTexts x = new PairTexts();
+        Model m = new Model();
+        StringBuilder book = new StringBuilder();
+        // No two letters side by side stand there twice, so that no RULE but a LETTER does.
+        StringBuilder text = new StringBuilder("a");
+        boolean[][] used = new boolean[26][26];
+        for (int last = 0; text.length() < 598; last = text.charAt(text.length() - 1) - 'a') {
+            int next = 25;
+            while (used[last][next]) next--;
+            used[last][next] = true;
+            text.append((char) ('a' + next));
+        }
+        book.append("text \"").append(text).append("\";text \"zz\";");
+        byte[] bytes = book.toString().getBytes(java.nio.charset.StandardCharsets.ISO_8859_1);
+        for (int[] f : Books.feeds(bytes)) {
+            x.feed(f[0], f[1], f[2], f[3], f[4]);
+            m.feed(f[0], f[1], f[2], f[3], f[4]);
+        }
+        both(x, m, "load", x.load(bytes.length), m.load(bytes.length));
+        both(x, m, "splice", x.splice(0, 598, 0, 1), m.splice(0, 598, 0, 1));
+        System.out.println("RULES of a TEXT of 600: " + x.of(0, 1));
+        lastRules(x, m, 0);
+    }
+
     private static int erasOf(PairTexts x) throws ReflectiveOperationException {
         var rules = PairTexts.class.getDeclaredField("rules");
         rules.setAccessible(true);
@@ -69,6 +102,7 @@ public final class BigTextsTest {
     }
 
     public static void main(String[] args) throws ReflectiveOperationException {
+        manyRules();
         int eras = 0;
         for (long seed = 0; seed < 6; seed++) {
             Random random = new Random(seed);
@@ -82,6 +116,7 @@ public final class BigTextsTest {
                 else if (m.texts().size() == 8) mingle(x, m, random);
             }
             eras += erasOf(x);
+            for (int t = 0; t < m.texts().size(); t++) lastRules(x, m, t);
         }
         Check.due("the RULES were cleared at times", eras > 0 ? 1 : 0, 1);
         Check.end("BigTextsTest");

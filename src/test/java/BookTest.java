@@ -112,6 +112,11 @@ public final class BookTest {
         reads("text ~\"ab\"+~\"ab\"+~\"ab\"+~\"ab\"+~\"ab\"+~\"ab\"+~\"ab\"+(\"c\");", "bababababababac");
         reads("text \"a\";".repeat(8) + "put 7=\"b\";", "a", "a", "a", "a", "a", "a", "a", "b");
         reads("text \"a\"*300+(\"b\"*300)[0,300];", a(300) + "b".repeat(300));
+        // A SUM of nearly 600 is open at each depth, and the innermost has 600 ahead of its cut.
+        String deep = "(\"h\"*600)[0,1]";
+        for (char c = 'g'; c > 'b'; c--) deep = "(\"" + c + "\"*598+" + deep + ")[597,2]";
+        reads("text \"b\"*598+" + deep + ";", "b".repeat(598) + "cd");
+        reads("text \"a\"" + "[0,1]".repeat(170) + "*1".repeat(20) + ";", "a");
     }
 
     private static void noToken() {
@@ -135,6 +140,9 @@ public final class BookTest {
 
     private static void cannotStand() {
         faultyAt(2, "|a");
+        faultyAt(2, "|" + ";".repeat(900));
+        faultyAt(2, "text" + " ".repeat(896) + "|");
+        faultyAt(2, "text \"a\"" + "*1".repeat(446) + "|");
         faultyAt(2, "|texts \"a\";");
         faultyAt(2, "|textput \"a\";");
         faultyAt(2, "|;");

@@ -10,6 +10,9 @@ public final class LooksTest {
             Check.gives(x, "PERIOD " + t, x.of(t, 5), due[t][1]);
             Check.gives(x, "unlike LETTERS " + t, x.of(t, 6), due[t][2]);
         }
+        x.repeat(2, 150);
+        Check.gives(x, "PERIOD of 600", x.of(2, 5), 4);
+        Check.gives(x, "600 in itself", x.finds(2, 2), 1);
         Check.refused(x, "what", x.of(0, -1), 1);
         Check.refused(x, "what", x.of(9, 7), 1);
         Check.refused(x, "text", x.of(5, 0), 2);
