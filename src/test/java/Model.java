@@ -560,6 +560,8 @@ final class Model {
 
     List<String> texts() { return texts; }
 
+    static int signOf(String text) { return grammar.built(text).top.sign; }
+
     /** Recursive descent over TOKENS that are cut when they are asked for. */
     private static final class Reader {
         private static final List<Pattern> FORMS = List.of(Pattern.compile("[a-z]+"), Pattern.compile("[0-9]+"),
