@@ -13,6 +13,7 @@ public final class PairTexts {
     private static final int MOST_UNDONE = 8;
     private static final int MOST_MARKS = 3;
     private static final int ALPHABET = 26;
+    private static final long GREATEST_VALUE = 9223372036854775807L;
 
     private static final int CANT_BE = 1;
     private static final int NO_TEXT = 2;
@@ -204,7 +205,7 @@ public final class PairTexts {
         long value = 0;
         for (int place = 0; place < now.lengthOf(text); place++) {
             int digit = now.at(text, place);
-            if (value > (Long.MAX_VALUE - digit) / ALPHABET) {
+            if (value > (GREATEST_VALUE - digit) / ALPHABET) {
                 return refuse(TOO_GREAT);
             }
             value = value * ALPHABET + digit;

@@ -19,12 +19,8 @@ public final class BigTextsTest {
     private static void fill(PairTexts x, Model m, Random random) {
         StringBuilder book = new StringBuilder();
         for (int i = 0; i < 8; i++) book.append("text \"").append(letters(random, 100)).append("\";");
-        byte[] bytes = book.toString().getBytes(java.nio.charset.StandardCharsets.ISO_8859_1);
-        for (int[] f : Books.feeds(bytes)) {
-            x.feed(f[0], f[1], f[2], f[3], f[4]);
-            m.feed(f[0], f[1], f[2], f[3], f[4]);
-        }
-        both(x, m, "load", x.load(bytes.length), m.load(bytes.length));
+        int bytes = Books.feed(x, m, book.toString());
+        both(x, m, "load", x.load(bytes), m.load(bytes));
         both(x, m, "NEW of load", x.many(5), m.many(5));
     }
 
@@ -71,23 +67,8 @@ public final class BigTextsTest {
         Model.forget();
         PairTexts x = new PairTexts();
         Model m = new Model();
-        StringBuilder book = new StringBuilder();
-        // No two letters side by side stand there twice, so that no RULE but a LETTER does.
-        StringBuilder text = new StringBuilder("a");
-        boolean[][] used = new boolean[26][26];
-        for (int last = 0; text.length() < 598; last = text.charAt(text.length() - 1) - 'a') {
-            int next = 25;
-            while (used[last][next]) next--;
-            used[last][next] = true;
-            text.append((char) ('a' + next));
-        }
-        book.append("text \"").append(text).append("\";text \"zz\";");
-        byte[] bytes = book.toString().getBytes(java.nio.charset.StandardCharsets.ISO_8859_1);
-        for (int[] f : Books.feeds(bytes)) {
-            x.feed(f[0], f[1], f[2], f[3], f[4]);
-            m.feed(f[0], f[1], f[2], f[3], f[4]);
-        }
-        both(x, m, "load", x.load(bytes.length), m.load(bytes.length));
+        int bytes = Books.feed(x, m, "text \"" + Books.unlikePairs(598) + "\";text \"zz\";");
+        both(x, m, "load", x.load(bytes), m.load(bytes));
         both(x, m, "splice", x.splice(0, 598, 0, 1), m.splice(0, 598, 0, 1));
         System.out.println("RULES of a TEXT of 600: " + x.of(0, 1));
         lastRules(x, m, 0);

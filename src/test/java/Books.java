@@ -105,6 +105,29 @@ final class Books {
         }
     }
 
+    /** No two letters side by side stand there twice, so that no RULE but a LETTER does. */
+    static String unlikePairs(int many) {
+        StringBuilder text = new StringBuilder("a");
+        boolean[][] used = new boolean[26][26];
+        for (int last = 0; text.length() < many; last = text.charAt(text.length() - 1) - 'a') {
+            int next = 25;
+            while (used[last][next]) next--;
+            used[last][next] = true;
+            text.append((char) ('a' + next));
+        }
+        return text.toString();
+    }
+
+    /** The same bytes onto both tapes: how many. */
+    static int feed(PairTexts x, Model m, String book) {
+        byte[] bytes = book.getBytes(StandardCharsets.ISO_8859_1);
+        for (int[] f : feeds(bytes)) {
+            x.feed(f[0], f[1], f[2], f[3], f[4]);
+            m.feed(f[0], f[1], f[2], f[3], f[4]);
+        }
+        return bytes.length;
+    }
+
     /** Five ints for each twenty bytes, with zeros behind the last. */
     static List<int[]> feeds(byte[] bytes) {
         List<int[]> feeds = new ArrayList<>();

@@ -88,6 +88,7 @@ final class Edge {
         for (int what = 0; what < 6; what++) all.add((long) x.many(what));
         for (int text = 0; text < x.many(0); text++) {
             all.add((long) x.of(text, 0));
+            all.add((long) x.of(text, 3));
             all.add((long) x.of(text, 4));
         }
     }
@@ -121,6 +122,23 @@ final class Edge {
         x.drop(2);
         Check.load(x, "text \"a\"*0;");
         x.feed(0x74657874, 0x20226b65, 0x7074223b, BLANKS, BLANKS);
+        return x;
+    }
+
+    /** ab, abab, ba, abab: the second was ababababab, whose letters may still lie behind its end. */
+    static PairTexts shortened() {
+        PairTexts x = Check.with("ab", "ababababab", "ba");
+        x.take(1, 0, 4);
+        x.splice(1, 0, 10, 3);
+        return x;
+    }
+
+    /** Eight TEXTS of 600 LETTERS, each with two LETTERS of its own. */
+    static PairTexts fullest() {
+        PairTexts x = new PairTexts();
+        StringBuilder book = new StringBuilder();
+        for (int i = 0; i < 8; i++) book.append("text \"").append((char) ('a' + i)).append("\"*599+\"z\";");
+        Check.load(x, book.toString());
         return x;
     }
 

@@ -1,3 +1,4 @@
+import java.util.Arrays;
 import java.util.function.Supplier;
 
 /** Boundary cases of promises 1 (a new object), 2 (status) and 12 to 21 (the ACTS, undo, MARKS). */
@@ -440,6 +441,37 @@ public final class EdgesActsTest {
         Edge.texts(x, "c");
     }
 
+    // ---- eight TEXTS of 600 LETTERS
+
+    private static String[] fullestBut(int text, String is) {
+        String[] texts = new String[8];
+        for (int i = 0; i < 8; i++) texts[i] = i == text ? is : String.valueOf((char) ('a' + i)).repeat(599) + "z";
+        return texts;
+    }
+
+    private static void fullest() {
+        String h = "h".repeat(599) + "z";
+        Edge.of(13, "eight TEXTS of 600 LETTERS: the last one");
+        Edge.acts(600, Edge::fullest, x -> x.splice(7, 0, 600, 7), fullestBut(7, h));
+        Edge.acts(600, Edge::fullest, x -> x.splice(7, 0, 600, 0), fullestBut(7, a(599) + "z"));
+        Edge.acts(600, Edge::fullest, x -> x.splice(0, 0, 600, 7), fullestBut(0, h));
+        Edge.refused(6, Edge::fullest, x -> x.splice(7, 600, 0, 7));
+        Edge.of(16, "eight TEXTS of 600 LETTERS: the last one");
+        Edge.acts(0, Edge::fullest, x -> x.turn(7), fullestBut(7, "z" + "h".repeat(599)));
+        Edge.of(17, "eight TEXTS of 600 LETTERS: the last one");
+        Edge.acts(599, Edge::fullest, x -> x.rename(7, 7, 25), fullestBut(7, "z".repeat(600)));
+        Edge.of(18, "eight TEXTS of 600 LETTERS: the first, the last one");
+        Edge.acts(7, Edge::fullest, x -> x.drop(7), Arrays.copyOf(fullestBut(7, ""), 7));
+        Edge.acts(7, Edge::fullest, x -> x.drop(0), Arrays.copyOfRange(fullestBut(0, ""), 1, 8));
+        Edge.of(21, "eight TEXTS of 600 LETTERS taken back");
+        PairTexts x = Edge.fullest();
+        x.mark();
+        x.load(0);
+        Edge.texts(x);
+        Edge.due("back", x.back(), 0);
+        Edge.texts(x, fullestBut(7, h));
+    }
+
     // ---- the 512th call
 
     private static void lastCall() {
@@ -473,6 +505,7 @@ public final class EdgesActsTest {
         promise19();
         promise20();
         promise21();
+        fullest();
         lastCall();
         Check.end("EdgesActsTest");
     }

@@ -134,7 +134,19 @@ public final class EdgesBookTest {
         Edge.due("an empty BOOK", x.load(0), 0);
         Edge.texts(x);
         Edge.due("the most", Check.load(x, "text \"a\";".repeat(8)), 8);
+        Edge.of(4, "The first n bytes of the tape: each n, whatever is behind them");
+        String book = "text (\"ab\"+\"c\")*2; put 0=#0[12,1]+~\"xyz\"*120 ;";
+        for (int n = 0; n <= book.length(); n++) {
+            x = new PairTexts();
+            Check.feed(x, book);
+            PairTexts y = new PairTexts();
+            Check.feed(y, book.substring(0, n) + "?".repeat(book.length() - n));
+            Edge.due("load(" + n + ")", x.load(n), y.load(n));
+            for (int what = 0; what < 3; what++) Edge.due("load(" + n + "): fault", x.fault(what), y.fault(what));
+        }
         Edge.of(4, "A BOOK is told by at most 900 bytes");
+        faultyAt(2, "|" + ";".repeat(900));
+        faultyAt(2, "text \"a\"" + "*1".repeat(446) + "|");
         sound("text \"" + a(600) + "\";text \"" + a(284) + "\";", a(600), a(284));
         sound(" ".repeat(891) + "text \"a\";", "a");
     }
@@ -163,6 +175,14 @@ public final class EdgesBookTest {
                 Edge.due("ACTS behind " + books[i], x.undo(), y.undo());
                 Edge.same("TEXTS behind " + books[i], told(x), told(y));
             }
+        }
+        Edge.of(4, "a sound BOOK behind one with a FAULT, wherever that broke off");
+        for (String broken : new String[] {"text ((((((?", "text ~~~~~~?", "text \"a\"*600+(\"b\"+(\"c\"?", "text \"a\"[0,",
+            "text \"a\"*600+\"b\";", "text |", "text \"a\"; put 0"}) {
+            PairTexts x = new PairTexts();
+            Edge.due("load " + broken, Check.load(x, broken), PairTexts.NONE);
+            Edge.due("a sound one", Check.load(x, "text ((((((\"ab\")*299)))))+~~~~~~\"c\"[0,1];"), 1);
+            Edge.texts(x, "ab".repeat(299) + "c");
         }
         Edge.of(4, "9: all stays as it was, LINES ahead of the FAULT, too");
         PairTexts x = Check.with("kept", "too");
@@ -219,7 +239,13 @@ public final class EdgesBookTest {
         faultyAt(2, "|textt \"a\";");
         faultyAt(2, "|tex \"a\";");
         faultyAt(2, "|t ext \"a\";");
+        faultyAt(2, "|next \"a\";");
+        faultyAt(2, "|texs \"a\";");
+        faultyAt(2, "|tuxt \"a\";");
         faultyAt(2, "|puts 0=\"a\";");
+        faultyAt(2, "text \"a\"; |but 0=\"a\";");
+        faultyAt(2, "text \"a\"; |pot 0=\"a\";");
+        faultyAt(2, "text \"a\"; |pub 0=\"a\";");
         faultyAt(2, "|pu t 0=\"a\";");
         faultyAt(2, "text \"a\"* 1 |1;");
         faultyAt(2, "text \"a\"*60|text");
@@ -430,6 +456,16 @@ public final class EdgesBookTest {
         faultyAt(5, "text (\"a\"*600+|\"b\")[0,1];");
         sound("text (\"a\"*599+\"b\")[599,1]+\"c\"*599;", "b" + "c".repeat(599));
         sound("text \"a\"*600; text (#0[0,599]+\"b\")[0,1];", a(600), "a");
+        Edge.of(4, "FAULT 5 more than 600 letters: each SUM counts by itself");
+        sound("text \"a\"*400+(\"b\"*300+(\"c\"))[0,1];", a(400) + "b");
+        sound("text \"a\"*400+(\"b\"*300+~(\"c\"*300))[299,2];", a(400) + "bc");
+        String inner = "\"a\"*600";
+        for (int i = 0; i < 6; i++) inner = "\"a\"*599+(" + inner + ")[0,1]";
+        sound("text " + inner + ";", a(600));
+        String open = "\"a\"*600+(";
+        faultyAt(5, "text " + open.repeat(6) + "\"a\"*600+\"a\"*|600;");
+        faultyAt(5, "text " + open.repeat(6) + "\"a\"*600+\"a\"*|1;");
+        faultyAt(5, "text " + open.repeat(6) + "\"a\"|);");
     }
 
     private static void openers(int many, String wanted) {

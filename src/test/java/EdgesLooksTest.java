@@ -346,6 +346,39 @@ public final class EdgesLooksTest {
         Edge.refused(5, Edge.empty(), x -> x.sorted(0));
     }
 
+    /** TEXTS ab, abab (which was longer), ba, abab. */
+    private static void shortened() {
+        Edge.of(7, "PERIOD, LETTERS of a TEXT that was longer");
+        Edge.looks(2, Edge::shortened, x -> x.of(1, 5));
+        Edge.looks(4, Edge::shortened, x -> x.of(1, 0));
+        Edge.of(8, "5: a PLACE that a TEXT had");
+        Edge.refused(5, Edge::shortened, x -> x.letter(1, 4));
+        Edge.of(22, "or one ends: where a TEXT that was longer ends");
+        Edge.looks(4, Edge::shortened, x -> x.alike(1, 0, 3, 0));
+        Edge.looks(2, Edge::shortened, x -> x.alike(3, 0, 1, 2));
+        Edge.looks(1, Edge::shortened, x -> x.alike(3, 1, 1, 3));
+        Edge.looks(1, Edge::shortened, x -> x.alike(1, 3, 3, 1));
+        Edge.looks(2, Edge::shortened, x -> x.alike(1, 2, 1, 0));
+        Edge.of(23, "they are the same: a TEXT that was longer");
+        Edge.looks(PairTexts.NONE, Edge::shortened, x -> x.against(1, 3, 0));
+        Edge.looks(1, Edge::shortened, x -> x.against(1, 3, 3));
+        Edge.of(24, "stands whole: not beyond the end of a TEXT that was longer");
+        Edge.looks(2, Edge::shortened, x -> x.find(1, 0, 1));
+        Edge.refused(5, Edge::shortened, x -> x.find(1, 0, 3));
+        Edge.refused(5, Edge::shortened, x -> x.find(1, 2, 3));
+        Edge.looks(2, Edge::shortened, x -> x.finds(1, 0));
+        Edge.of(26, "TURN ALIKE: not beyond the end of a TEXT that was longer");
+        Edge.looks(1, Edge::shortened, x -> x.mirror(1, 3, false));
+        Edge.looks(3, Edge::shortened, x -> x.mirror(1, 2, false));
+        Edge.of(27, "5: PLACE beyond, in a TEXT that was longer");
+        Edge.refused(5, Edge::shortened, x -> x.rank(1, 0, 5));
+        Edge.of(28, "5: in a TEXT that was longer");
+        Edge.refused(5, Edge::shortened, x -> x.select(1, 0, 2));
+        Edge.of(29, "of same ones by their numbers: one that was longer");
+        Edge.looks(1, Edge::shortened, x -> x.sorted(1));
+        Edge.looks(3, Edge::shortened, x -> x.sorted(2));
+    }
+
     public static void main(String[] args) {
         promise8();
         promise11();
@@ -357,6 +390,7 @@ public final class EdgesLooksTest {
         promise27();
         promise28();
         promise29();
+        shortened();
         Check.end("EdgesLooksTest");
     }
 }

@@ -60,6 +60,26 @@ public final class EdgesRulesTest {
             {0, 1, 6, -1, 2, 0, 0}, {0, 1, 9, -1, 1, 218107511, 1}});
     }
 
+    /** g and gj have one SIGN, and so has whatever is made of the one as of the other. */
+    private static void sameSigns(String text, String other, int rules, int both) {
+        PairTexts x = Check.with(text, other);
+        Edge.due("SIGNS of " + text + ", " + other, x.of(0, 4), x.of(1, 4));
+        Edge.due("RULES of " + text + ", " + other, x.many(1), rules);
+        Edge.due("both have", x.against(0, 1, 2), both);
+        Edge.due("TOPS", x.against(0, 1, 3), 0);
+        Edge.due("NEW of load", x.many(5), rules);
+        Edge.due("LENGTH of the one TOP", x.rule(0, 0, 1), text.length());
+        Edge.due("LENGTH of the other", x.rule(1, 0, 1), other.length());
+    }
+
+    private static void promise9SameSigns() {
+        Edge.of(9, "Two RULES are one, if they are of the same RULES, as many times: the first ones differ");
+        sameSigns("gb", "gjb", 6, 2);
+        sameSigns("gg", "gjgj", 5, 1);
+        Edge.of(9, "Two RULES are one, if they are of the same RULES: the second ones differ");
+        sameSigns("bg", "bgj", 6, 2);
+    }
+
     private static void promise9() {
         Supplier<PairTexts> banana = Edge::used;
         Edge.of(9, "RULE k of a TEXT: the TOP is 0, the last one");
@@ -102,6 +122,26 @@ public final class EdgesRulesTest {
         }
     }
 
+    /** 600 LETTERS of 26 kinds, and a PAIR or RUN for all but one of them. */
+    private static void mostRules() {
+        Edge.of(9, "RULES of a TEXT: the most");
+        PairTexts x = new PairTexts();
+        Model m = new Model();
+        int bytes = Books.feed(x, m, "text \"" + Books.unlikePairs(600) + "\";");
+        Edge.due("load", x.load(bytes), m.load(bytes));
+        int rules = m.of(0, 1);
+        Edge.due("RULES", x.of(0, 1), rules);
+        Edge.due("more than 600", rules > 600 ? 1 : 0, 1);
+        Edge.due("RULES of all", x.many(1), rules);
+        Edge.due("NEW", x.many(5), rules);
+        for (int k = rules - 20; k <= rules; k++)
+            for (int what = 0; what < 7; what++) {
+                Edge.due("rule " + k + ", " + what, x.rule(0, k, what), m.rule(0, k, what));
+                Edge.due("STATUS of rule " + k + ", " + what, x.status(), k < rules ? 0 : 5);
+            }
+        for (int place = 580; place < 600; place++) Edge.due("around " + place, x.around(0, place, 3), m.around(0, place, 3));
+    }
+
     private static void promise10() {
         Edge.of(10, "from the TOP on, the i-th (the last one is the LETTER)");
         int[][] banana = {{0, 1}, {0, 2, 3, 4, 5}, {0, 2, 3, 4, 6}, {0, 2, 3, 4, 5}, {0, 2, 3, 4, 6}, {0, 2, 5}};
@@ -124,6 +164,16 @@ public final class EdgesRulesTest {
         }
         Edge.looks(2, Edge.with("ababab"), x -> x.around(0, 4, 2));
         Edge.looks(3, Edge.with("ababab"), x -> x.around(0, 5, 2));
+        Edge.of(10, "as RULE of the TEXT: not of another one that was asked for");
+        Supplier<PairTexts> asked = () -> {
+            PairTexts y = Check.with("abab", "banana");
+            y.of(0, 1);
+            return y;
+        };
+        for (int i = 0; i < banana[4].length; i++) {
+            int one = i;
+            Edge.looks(banana[4][i], asked, x -> x.around(1, 4, one));
+        }
         Edge.of(10, "1: below 0");
         Edge.refused(1, Edge::used, x -> x.around(0, -1, 0));
         Edge.refused(1, Edge::used, x -> x.around(0, 0, -1));
@@ -263,6 +313,9 @@ public final class EdgesRulesTest {
         Edge.of(7, "unlike LETTERS: 1 to 26");
         Edge.looks(1, Edge.with(a(600)), x -> x.of(0, 6));
         Edge.looks(2, Edge.with("zaz"), x -> x.of(0, 6));
+        Edge.looks(1, Edge.with("b"), x -> x.of(0, 6));
+        Edge.looks(1, Edge.with("zz"), x -> x.of(0, 6));
+        Edge.looks(25, Edge.with("bcdefghijklmnopqrstuvwxyz"), x -> x.of(0, 6));
         Edge.looks(26, Edge.with("abcdefghijklmnopqrstuvwxyz"), x -> x.of(0, 6));
         Edge.looks(26, Edge.with("zyxwvutsrqponmlkjihgfedcbaabc"), x -> x.of(0, 6));
         Edge.of(7, "1");
@@ -298,6 +351,21 @@ public final class EdgesRulesTest {
         tells(two, 1, 1, 1, 0, 1);
         tells(two, 1, 0, 2, 0, 0);
         tells(Edge.with("g", "j"), 1, 0, 1, 0, 1);
+        Edge.of(30, "NEW of splice(): RULES that were there, but are gone");
+        Supplier<PairTexts> gone = () -> {
+            PairTexts y = Check.with("a", "b", "ab");
+            y.drop(2);
+            return y;
+        };
+        tells(gone, 1, 0, 1, 0, 1);
+        Supplier<PairTexts> undone = () -> {
+            PairTexts y = Check.with("a", "b");
+            y.join(0, 1);
+            y.undo();
+            y.would(0, 1, 0, 1);
+            return y;
+        };
+        tells(undone, 1, 0, 1, 0, 1);
         Edge.of(30, "NEW of splice(): the most LETTERS");
         tells(Edge.with(a(599), "a"), 1, 0, 599, 0, 1);
         tells(Edge.with("b", a(600)), 0, 0, 0, 1, 1);
@@ -329,7 +397,9 @@ public final class EdgesRulesTest {
         promise6New();
         promise7();
         promise9Rules();
+        promise9SameSigns();
         promise9();
+        mostRules();
         promise10();
         promise30();
         Check.end("EdgesRulesTest");
