@@ -524,6 +524,8 @@ public final class EdgesBookTest {
         faultyAt(2, "text \"a\"*600+(\"b\"|;");
         faultyAt(3, "text \"a\"*600+#|0;");
         faultyAt(4, "text \"a\"*600+\"b\"*|0;");
+        faultyAt(4, "text \"a\"*600+\"b\"*2*|0;");
+        faultyAt(5, "text \"a\"*600+\"b\"*2*|2;");
         faultyAt(4, "text \"a\"*600+\"b\"[0,|2];");
         Edge.of(4, "FAULTS, of one TOKEN the least kind");
         faultyAt(1, "|12345");
