@@ -40,17 +40,17 @@ public final class PairTexts {
     /** Twice the RULES that stand in one TEXT, each counted wherever it stands. */
     private static final int MOST_STEPS = 2400;
 
-    private final byte[] tape = new byte[MOST_BYTES];
+    private final Book book = new Book();
+    private final byte[] tape = book.tokens.bytes;
     private int taped;
     private int told;
     private final Shelf now = new Shelf();
     private final Row draft = new Row(MOST_LETTERS);
     private final Pile past = new Pile(MOST_UNDONE);
     private final Pile marks = new Pile(MOST_MARKS);
-    private final Rules rules = new Rules();
-    private final Walk walk = new Walk(rules);
+    private final Walk walk = new Walk();
+    private final Rules rules = walk.rules;
     private final Search search = new Search();
-    private final Book book = new Book(tape);
 
     public PairTexts() {
     }
@@ -1072,7 +1072,7 @@ public final class PairTexts {
 
     /** Goes through RULES from tops on and numbers those that it meets, each once. */
     private static final class Walk {
-        final Rules rules;
+        final Rules rules = new Rules();
         /** Met on this walk, if it is the walk's stamp: so that none need be cleared. */
         final int[] stamps = new int[RULE_ROOM];
         final int[] numbers = new int[RULE_ROOM];
@@ -1083,10 +1083,6 @@ public final class PairTexts {
         int opened;
         int stamp;
         int count;
-
-        Walk(Rules rules) {
-            this.rules = rules;
-        }
 
         void begin() {
             stamp++;
@@ -1237,7 +1233,8 @@ public final class PairTexts {
         static final String TEXT_WORD = "text";
         static final String PUT_WORD = "put";
 
-        final byte[] bytes;
+        /** The tape: a BOOK is its first bytes. */
+        final byte[] bytes = new byte[MOST_BYTES];
         final int[] kinds = new int[MOST_BYTES + 1];
         final int[] places = new int[MOST_BYTES + 1];
         /** Of a NUMBER what it is, of a QUOTE how many letters it has. */
@@ -1248,12 +1245,8 @@ public final class PairTexts {
         /** Where the latest TOKEN that was passed stands. */
         int passed;
 
-        Tokens(byte[] bytes) {
-            this.bytes = bytes;
-        }
-
         void cut(int many) {
-            size = Math.max(0, Math.min(many, Math.min(bytes.length, MOST_BYTES)));
+            size = Math.max(0, Math.min(many, MOST_BYTES));
             count = 0;
             finger = 0;
             passed = NONE;
@@ -1379,7 +1372,7 @@ public final class PairTexts {
         static final int TIMES_READ = 2;
         static final int LINE_READ = 3;
 
-        final Tokens tokens;
+        final Tokens tokens = new Tokens();
         final Shelf shelf = new Shelf();
         /** A SUM within each bracket may be as long as a TEXT, and what is added to it as well. */
         final Row row = new Row((DEEPEST + 2) * MOST_LETTERS);
@@ -1394,10 +1387,6 @@ public final class PairTexts {
         /** The FAULT, 0 without one. */
         int kind;
         int place;
-
-        Book(byte[] bytes) {
-            tokens = new Tokens(bytes);
-        }
 
         void read(int many) {
             used = true;

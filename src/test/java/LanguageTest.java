@@ -81,6 +81,8 @@ public final class LanguageTest {
         for (Class<?> one : inside) {
             holds("static: " + one, Modifier.isStatic(one.getModifiers()) && !Modifier.isPublic(one.getModifiers()));
             fields(one);
+            for (Constructor<?> made : one.getDeclaredConstructors())
+                for (Class<?> part : made.getParameterTypes()) holds("hands out nothing: " + made, part.isPrimitive());
             for (Method method : one.getDeclaredMethods()) parameters(method, names.contains(method.getName()));
         }
         for (Method method : PairTexts.class.getDeclaredMethods())
